@@ -168,6 +168,7 @@ public final class ChannelDeskPromises {
         x.send(5, 0, 22);
         due("4: from the first sender", x.receive(6, 0), 1);
         due("4: its value", x.got(6), 21);
+        due("4: it was sent", x.last(6), 3);
         due("4: the first is through", x.state(4), 0);
         due("4: the second waits on", x.state(5), 1);
     }
@@ -423,13 +424,6 @@ public final class ChannelDeskPromises {
         x.add(0, 0, 1, 0);
         x.add(0, 0, 0, 2);
         x.choose(0, 0, false);
-        x.add(1, 0, 0, 3);
-        x.choose(1, 1, false);
-        due("7: the second choice met the first", x.got(0), 3);
-        x.add(0, 1, 0, 1);
-        x.add(0, 0, 1, 0);
-        x.add(0, 0, 0, 2);
-        x.choose(0, 0, false);
         x.add(2, 2, 0, 4);
         x.add(2, 1, 0, 5);
         x.add(2, 1, 0, 6);
@@ -643,6 +637,13 @@ public final class ChannelDeskPromises {
         due("13: none waits", x.count(1), 0);
         due("13: meetings", x.count(2), 2);
         due("13: channels", x.count(0), 2);
+        for (int r = 0; r < 16; r++) {
+            x.receive(r, 1);
+        }
+        due("13: all wait", x.count(1), 16);
+        due("13: the last of them", x.waiting(1, 1, 15), 15);
+        due("13: all are woken", x.close(1), 16);
+        due("13: none waits again", x.count(1), 0);
     }
 
     private static void promise14Clear() {
