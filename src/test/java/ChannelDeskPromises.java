@@ -1,4 +1,4 @@
-/** One method for each promise of the document: ordinary inputs, the edges it names, wrong inputs. */
+/** A method or more for each promise of the document: ordinary inputs, the edges it names, wrong inputs. */
 public final class ChannelDeskPromises {
     private static final int LOW = Integer.MIN_VALUE;
     private static final int HIGH = Integer.MAX_VALUE;
